@@ -1151,18 +1151,20 @@ public final class GravediggerPaid {
         }
 
         private int bestWith(Churchyard yard, int g, int set) {
+            if (set < 0 || set >= SETS) {
+                return UNREACHED;
+            }
             int most = worth[set];
+            int wet = yard.wetness(g);
+            int inch = Math.max(1, yard.weepingForInch(g));
             for (int here = 1; here <= set; here++) {
                 if ((here & ~set) == 0) {
-                    most = Math.max(most, worth[set - here] + worthOf(yard, g, here));
+                    int inches = (wet + weeping[here]) / inch;
+                    int worthHere = inches * CODES - g * digits[here];
+                    most = Math.max(most, worth[set - here] + worthHere);
                 }
             }
             return most;
-        }
-
-        private int worthOf(Churchyard yard, int g, int here) {
-            int inches = (yard.wetness(g) + weeping[here]) / yard.weepingForInch(g);
-            return inches * CODES - g * digits[here];
         }
     }
 
