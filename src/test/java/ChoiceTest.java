@@ -2,6 +2,10 @@
 public final class ChoiceTest {
     public static void main(String[] args) {
         seat();
+        seatsTried("g9;g4;g7;g3;g5;mm037;mh500;mf622;mo100;mm061;ml000;", 6);
+        seatsTried("g2;g3;g1;mm017;mm023;mh300;mf411;", 4);
+        seatsTried("g9;g9;g9;g9;mh700;mh700;mh300;mm011;a01;a11;a22;d02;n0;h20;", 4);
+        seatsTried("g4;g4;g4;g4;g4;mh300;mh300;mh000;mh000;mh300;mh000;", 6);
         fewest();
         tell();
         send();
@@ -49,6 +53,34 @@ public final class ChoiceTest {
         Check.due("bottom", bottom.grave(0, 1), 999);
         Check.due("as if without an end", bottom.seat(-1), 20);
         Check.due("wherever they are", Check.yard("g0;mm090;").seat(-1), 9);
+    }
+
+    /** Every seating is tried on a fresh object by a day that goes by. */
+    private static void seatsTried(String text, int mourners) {
+        GravediggerPaid x = Check.yard(text);
+        int graves = x.count(0);
+        int most = -1;
+        int first = 0;
+        for (int code = 0; code < Math.pow(graves, mourners); code++) {
+            GravediggerPaid y = new GravediggerPaid();
+            Check.tell(y, text);
+            int before = y.count(4);
+            int rest = code;
+            for (int m = mourners - 1; m >= 0; m--) {
+                y.goes(m, rest % graves);
+                rest /= graves;
+            }
+            y.days(1);
+            if (y.count(4) - before > most) {
+                most = y.count(4) - before;
+                first = code;
+            }
+        }
+        Check.due("most of " + text, x.seat(-1), most);
+        for (int m = mourners - 1; m >= 0; m--) {
+            Check.due(m + " of " + text, x.seat(m), first % graves);
+            first /= graves;
+        }
     }
 
     private static void fewest() {
@@ -130,6 +162,9 @@ public final class ChoiceTest {
         Check.due("nobody first", x.bring(2, -1), -1);
         Check.due("below", x.bring(0, -1), -4);
         Check.due("above", x.bring(0, 31), -6);
+        x.goes(0, 2);
+        x.hardens(0, 0);
+        Check.due("grave 0", x.bring(0, 30), 0);
         Check.due("no graves", Check.yard("mm099;").bring(0, 30), -9);
     }
 

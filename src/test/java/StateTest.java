@@ -62,6 +62,12 @@ public final class StateTest {
         edge.days(9);
         Check.due("an inch behind nine", edge.grave(0, 1), 1);
         Check.due("99 days", edge.grave(0, 5), 99);
+        GravediggerPaid late = Check.yard("g9;ml000;a00;d19;");
+        Check.due("101 days", late.grave(0, 5), -9);
+        late.days(1);
+        Check.due("100 days", late.grave(0, 5), -9);
+        late.days(1);
+        Check.due("just 99", late.grave(0, 5), 99);
         // Held wet counts when the ground is softer, even if one weeps nothing.
         GravediggerPaid held = Check.yard("g9;mm090;a00;d01;h00;");
         held.grieves(0, 0);
