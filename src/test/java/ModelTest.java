@@ -6,6 +6,11 @@ import java.util.Random;
 public final class ModelTest {
     private static final int RUNS = 400;
     private static final int CALLS = 512;
+    /** The least and the greatest that some call takes, and one beyond. */
+    private static final int[] EDGES = {
+        Integer.MIN_VALUE, -10, -9, -2, -1, 0, 1, 2, 3, 4, 5, 6, 7, 8, 9, 10, 11, 12, 15, 16, 17, 19, 20, 21,
+        29, 30, 31, 49, 50, 59, 60, 61, 95, 96, 97, 98, 99, 100, 255, 256, 998, 999, 1000, Integer.MAX_VALUE,
+    };
 
     public static void main(String[] args) throws ReflectiveOperationException {
         int runs = args.length > 0 ? Integer.parseInt(args[0]) : RUNS;
@@ -29,6 +34,12 @@ public final class ModelTest {
     }
 
     private void run(Method[] methods) throws ReflectiveOperationException {
+        if (seed % 3 > 0) {
+            fill();
+        }
+        if (seed % 3 == 2) {
+            grow();
+        }
         while (calls < CALLS) {
             if (lot.nextInt(calls < 20 ? 3 : 60) == 0) {
                 tell();
@@ -40,6 +51,35 @@ public final class ModelTest {
                     call(m, arguments(m));
                 }
             }
+        }
+    }
+
+    /** Five graves and six mourners, some of them nowhere. */
+    private void fill() throws ReflectiveOperationException {
+        StringBuilder text = new StringBuilder();
+        for (int g = 0; g < 5; g++) {
+            text.append('g').append(digit(2) * digit(10)).append(';');
+        }
+        for (int m = 0; m < 6; m++) {
+            text.append('m').append("mhowfl".charAt(lot.nextInt(6)));
+            text.append(digit(10)).append(digit(10)).append(digit(10)).append(';');
+        }
+        for (int m = 0; m < 6; m++) {
+            if (lot.nextInt(6) > 0) {
+                text.append('a').append(m).append(digit(5)).append(';');
+            }
+        }
+        for (char c : text.toString().toCharArray()) {
+            call("letter", c);
+        }
+        call("yard");
+    }
+
+    /** Many days go by, so that some graves come near 999 inches or the day comes near 999. */
+    private void grow() throws ReflectiveOperationException {
+        for (int i = lot.nextInt(18); i > 0; i--) {
+            call("days", 60);
+            call("grieves", lot.nextInt(6), 99);
         }
     }
 
@@ -119,6 +159,7 @@ public final class ModelTest {
             case 0: return -1;
             case 1: return lot.nextInt(200) - 50;
             case 2: return lot.nextInt();
+            case 3: case 4: case 5: return EDGES[lot.nextInt(EDGES.length)];
             default:
         }
         boolean aboutMourner = "mourner goes leaves hears grieves turn griefThen seat bring onion two share whatIs"
@@ -128,7 +169,7 @@ public final class ModelTest {
             return lot.nextInt(name.equals("seat") ? 7 : 6) - (name.equals("seat") ? 1 : 0);
         }
         if (i == 0 && aboutGrave || i == 1 && name.equals("goes")) {
-            return lot.nextInt(4);
+            return lot.nextInt(model.now.graves.size() + 1);
         }
         switch (name + i) {
             case "letter0": return lot.nextInt(256);

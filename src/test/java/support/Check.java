@@ -11,6 +11,14 @@ final class Check {
         }
     }
 
+    static int wrong() {
+        return wrong;
+    }
+
+    static int seen() {
+        return seen;
+    }
+
     static void holds(String what, boolean truth) {
         due(what, truth ? 1 : 0, 1);
     }
@@ -19,6 +27,20 @@ final class Check {
     static GravediggerPaid yard(String text) {
         GravediggerPaid x = new GravediggerPaid();
         come(x, text);
+        return x;
+    }
+
+    /** A new object with grave 0, HARD 0, so many inches deep, and a lady AT it. */
+    static GravediggerPaid dug(int inches) {
+        GravediggerPaid x = yard("g0;mo900;a00;");
+        for (int left = inches / 10; left > 0; left -= 60) {
+            x.days(Math.min(60, left));
+        }
+        x.turn(0, 5, 0);
+        if (inches % 10 > 0) {
+            x.days(inches % 10);
+        }
+        due("dug", x.grave(0, 1), inches);
         return x;
     }
 
